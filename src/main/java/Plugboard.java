@@ -19,6 +19,7 @@ public final class Plugboard {
     private static final int MOST_VOTES_OF_ONE = 5;
     private static final int MOST_MIXED = 4;
     private static final int MOST_ORDERS = 24;
+    private static final int SIGN_BIT = 0x80000000;
 
     // All fields of a board have one numbering, so that writing, taking back and comparing know no kinds.
     // Every first value is 0: a place is the number of its cell, and a lock holds its user plus 1.
@@ -522,13 +523,13 @@ public final class Plugboard {
         return VOTES + user * SHAPES + shape;
     }
 
-    // LANGUAGE.md leaves Float.floatToIntBits out. No key is ever -0.0f: only half of a sum could be, and it
-    // would equal the greater key 0.0f, which putAbove refuses.
+    // LANGUAGE.md leaves Float.floatToIntBits out.
     private static int bitsOf(float key) {
         if (key == 0.0f) {
-            return 0;
+            // Half of the sum of two of the smallest keys can be -0.0f, which only a division tells from 0.0f.
+            return 1.0f / key < 0.0f ? SIGN_BIT : 0;
         }
-        int sign = key < 0.0f ? Integer.MIN_VALUE : 0;
+        int sign = key < 0.0f ? SIGN_BIT : 0;
         double rest = key < 0.0f ? -((double) key) : (double) key;
         int exponent = 0;
         for (int i = 0; i < 128 && rest >= 2.0; i++) {
@@ -692,12 +693,16 @@ public final class Plugboard {
             }
         }
 
+        /** Whether an operation is later than another one; than NONE, each one is. */
         boolean isLater(int operation, int than) {
-            if (than == NONE) {
+            if (operation < 0 || operation >= OPERATIONS) {
+                return false;
+            }
+            if (than < 0 || than >= OPERATIONS) {
                 return true;
             }
-            int difference = clockAt(operation) - clockAt(than);
-            return difference > 0 || difference == 0 && userAt(operation) > userAt(than);
+            int difference = clock[operation] - clock[than];
+            return difference > 0 || difference == 0 && user[operation] > user[than];
         }
 
         int lastOpenStepOf(int itsUser) {
@@ -728,11 +733,11 @@ public final class Plugboard {
         }
 
         int firstRowOf(int operation) {
-            return intAt(firstRow, operation, 0);
+            return operation >= 0 && operation < OPERATIONS ? firstRow[operation] : 0;
         }
 
         int endRowOf(int operation) {
-            return intAt(endRow, operation, 0);
+            return operation >= 0 && operation < OPERATIONS ? endRow[operation] : 0;
         }
     }
 
@@ -780,11 +785,11 @@ public final class Plugboard {
         }
 
         float valueAt(int field) {
-            return floatAt(value, field);
+            return field >= 0 && field < FIELDS ? value[field] : 0.0f;
         }
 
         int stemAt(int field) {
-            return intAt(stem, field, NONE);
+            return field >= 0 && field < FIELDS ? stem[field] : NONE;
         }
 
         boolean hasSameValues(Board other) {
@@ -846,11 +851,11 @@ public final class Plugboard {
         }
 
         int columnAt(int shape) {
-            return cellUnder(shape) % COLUMNS;
+            return (int) board.valueAt(PLACE + shape) % COLUMNS;
         }
 
         int rowAt(int shape) {
-            return cellUnder(shape) / COLUMNS;
+            return (int) board.valueAt(PLACE + shape) / COLUMNS;
         }
 
         float keyAt(int shape) {
@@ -981,16 +986,15 @@ public final class Plugboard {
             int row = rowAt(shape);
             int width = parts.widthAt(shape);
             int height = parts.heightAt(shape);
-            switch (parts.sideOfEnd(connector, isFirst)) {
-                case 't':
-                    return cellAt(column + (width - 1) / 2, row - 1);
-                case 'b':
-                    return cellAt(column + (width - 1) / 2, row + height);
-                case 'l':
-                    return cellAt(column - 1, row + (height - 1) / 2);
-                default:
-                    return cellAt(column + width, row + (height - 1) / 2);
+            char side = parts.sideOfEnd(connector, isFirst);
+            if (side == 't') {
+                return cellAt(column + (width - 1) / 2, row - 1);
             }
+            if (side == 'b') {
+                return cellAt(column + (width - 1) / 2, row + height);
+            }
+            int middle = row + (height - 1) / 2;
+            return side == 'l' ? cellAt(column - 1, middle) : cellAt(column + width, middle);
         }
 
         boolean areVotesShown() {
@@ -1034,16 +1038,16 @@ public final class Plugboard {
             int sum = 0;
             for (int shape = 0; shape < SHAPES; shape++) {
                 if (isSeen(shape)) {
-                    sum = mix(sum, shape);
-                    sum = mix(sum, columnAt(shape));
-                    sum = mix(sum, rowAt(shape));
-                    sum = mix(sum, rankAt(shape));
+                    sum = join(sum, shape);
+                    sum = join(sum, columnAt(shape));
+                    sum = join(sum, rowAt(shape));
+                    sum = join(sum, rankAt(shape));
                 }
             }
             return sum;
         }
 
-        private static int mix(int sum, int number) {
+        private static int join(int sum, int number) {
             return (sum * 31 + number + 1) % 1000003;
         }
     }
@@ -1054,7 +1058,7 @@ public final class Plugboard {
         final Log log;
         final Board board;
         final View view;
-        final boolean[] isKnown = new boolean[OPERATIONS];
+        final boolean[] known = new boolean[OPERATIONS];
         int knownCount;
         int greatestClock;
         int newest = NONE;
@@ -1067,14 +1071,14 @@ public final class Plugboard {
         }
 
         boolean isKnown(int operation) {
-            return isAt(isKnown, operation);
+            return isAt(known, operation);
         }
 
         void learn(int operation) {
             if (operation < 0 || operation >= OPERATIONS) {
                 return;
             }
-            isKnown[operation] = true;
+            known[operation] = true;
             knownCount++;
             greatestClock = Math.max(greatestClock, log.clockAt(operation));
             board.take(operation);
@@ -1157,7 +1161,9 @@ public final class Plugboard {
             }
             int different = 0;
             for (int order = 0; order < orders; order++) {
-                different = collect(different, sumUpInOrder(order, count));
+                board.copy(start);
+                mix(order, count);
+                different = collect(different, view.sumUp());
             }
             return different;
         }
@@ -1174,22 +1180,23 @@ public final class Plugboard {
             }
         }
 
-        /** The number of the order tells, digit by digit, which of the operations that are left comes next. */
-        private int sumUpInOrder(int order, int count) {
+        /**
+         * Delivers the latest operations in one of their orders. Its number tells, digit by digit, which of those
+         * that are left comes next.
+         */
+        private void mix(int order, int count) {
             for (int i = 0; i < count && i < MOST_MIXED; i++) {
                 mixed[i] = intAt(known, knownCount - count + i, NONE);
             }
-            board.copy(start);
             int digits = order;
             for (int left = Math.min(count, MOST_MIXED); left >= 1; left--) {
                 int next = Math.floorMod(digits, left);
                 digits = digits / left;
-                if (next < MOST_MIXED && left <= MOST_MIXED) {
+                if (next >= 0 && next < MOST_MIXED && left <= MOST_MIXED) {
                     board.take(mixed[next]);
                     mixed[next] = mixed[left - 1];
                 }
             }
-            return view.sumUp();
         }
 
         private int collect(int different, int sum) {
