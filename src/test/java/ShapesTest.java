@@ -286,6 +286,10 @@ public final class ShapesTest {
         C.due("user 1 counts its own", 1, () -> x.lock(1, 0));
         C.due("user 1", 1, () -> x.lockedBy(1, 0));
         C.due("one's own", 1, () -> x.unlock(1, 0));
+        C.due("nobody any more", -1, () -> x.lockedBy(1, 0));
+        C.due("of another number", 0, () -> x.unlock(1, 2));
+        C.due("nobody any more", -1, () -> x.lockedBy(1, 2));
+        C.due("nobody any more", Check.UNSUPPORTED, () -> x.unlock(1, 2));
         C.due("no user", Check.ARGUMENT, () -> x.lock(3, 0));
         C.due("no user", Check.ARGUMENT, () -> x.unlock(3, 0));
         C.due("no shape", Check.ELEMENT, () -> x.lock(0, 3));

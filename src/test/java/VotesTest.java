@@ -5,6 +5,7 @@ public final class VotesTest {
     public static void main(String[] args) {
         vote();
         fiveAtMost();
+        ofAllUsersAndShapes();
         shown();
         winner();
         C.end();
@@ -61,6 +62,30 @@ public final class VotesTest {
         x.sync(0, 1);
         C.due("others' votes do not count", 2, () -> x.vote(0, 1, 1));
         C.due("others' votes do not count", 0, () -> x.vote(0, 3, 1));
+    }
+
+    private static void ofAllUsersAndShapes() {
+        Plugboard x = new Plugboard();
+        for (int i = 0; i < 12; i++) {
+            x.addShape(0, i, i, 1, 1, false);
+        }
+        x.sync(0, 1);
+        x.sync(0, 2);
+        for (int shape = 0; shape < 12; shape++) {
+            for (int user = 0; user < 3; user++) {
+                int who = user;
+                int what = shape;
+                C.due("vote", 0, () -> x.vote(who, what, who + 1));
+            }
+            for (int user = 0; user < 3; user++) {
+                for (int other = 0; other < 12; other++) {
+                    int who = user;
+                    int what = other;
+                    C.due("own votes", other == shape ? user + 1 : 0, () -> x.ownVotes(who, what));
+                }
+                x.takeBack(user);
+            }
+        }
     }
 
     private static void shown() {
