@@ -9,6 +9,7 @@ public final class ConnectorsTest {
         seenWithBothShapes();
         endsOfSides();
         endsBeyondTheBoard();
+        endsInCorners();
         oneCell();
         bendsBeforeLength();
         framesDoNotBlock();
@@ -165,6 +166,39 @@ public final class ConnectorsTest {
             route("end beyond the board", x, 0, Check.UNSUPPORTED, Check.UNSUPPORTED);
             route("end beyond the board", x, 1, Check.UNSUPPORTED, Check.UNSUPPORTED);
             C.due("no mean", Check.ARITHMETIC, () -> x.meanRoute(0));
+        }
+    }
+
+    private static void endsInCorners() {
+        // Each corner is come to along its row, along its column, and gone through where the straight way is blocked.
+        int[][] corners = {{0, 0}, {23, 0}, {0, 15}, {23, 15}};
+        for (int[] corner : corners) {
+            boolean isLeft = corner[0] == 0;
+            boolean isTop = corner[1] == 0;
+            Plugboard x = new Plugboard();
+            x.addShape(0, corner[0], isTop ? 1 : 14, 1, 1, false);
+            x.addShape(0, isLeft ? 6 : 17, corner[1], 1, 1, false);
+            char side = isTop ? 't' : 'b';
+            char otherSide = isLeft ? 'l' : 'r';
+            x.connect(0, 0, side, 1, otherSide);
+            x.connect(0, 1, otherSide, 0, side);
+            route("from the corner along its row", x, 0, 0, 6);
+            route("to the corner along its row", x, 1, 0, 6);
+
+            Plugboard y = new Plugboard();
+            y.addShape(0, isLeft ? 1 : 22, corner[1], 1, 1, false);
+            y.addShape(0, corner[0], isTop ? 6 : 9, 1, 1, false);
+            y.connect(0, 0, otherSide, 1, side);
+            y.connect(0, 1, side, 0, otherSide);
+            route("from the corner along its column", y, 0, 0, 6);
+            route("to the corner along its column", y, 1, 0, 6);
+
+            Plugboard z = new Plugboard();
+            z.addShape(0, isLeft ? 1 : 15, isTop ? 1 : 7, 8, 8, false);
+            z.addShape(0, isLeft ? 10 : 13, corner[1], 1, 1, false);
+            z.addShape(0, corner[0], isTop ? 10 : 5, 1, 1, false);
+            z.connect(0, 1, otherSide, 2, side);
+            route("through the corner", z, 0, 1, 19);
         }
     }
 
