@@ -523,11 +523,20 @@ public final class Plugboard {
         return VOTES + user * SHAPES + shape;
     }
 
+    // Half of the sum of two of the smallest keys can be -0.0f, which only a division tells from 0.0f.
+    private static boolean isNegativeZero(float number) {
+        return number == 0.0f && 1.0f / number < 0.0f;
+    }
+
+    // In the order of the shapes -0.0f and 0.0f are equal, but they are two values of a key, with bits of their own.
+    private static boolean isSameValue(float one, float other) {
+        return one == other && isNegativeZero(one) == isNegativeZero(other);
+    }
+
     // LANGUAGE.md leaves Float.floatToIntBits out.
     private static int bitsOf(float key) {
         if (key == 0.0f) {
-            // Half of the sum of two of the smallest keys can be -0.0f, which only a division tells from 0.0f.
-            return 1.0f / key < 0.0f ? SIGN_BIT : 0;
+            return isNegativeZero(key) ? SIGN_BIT : 0;
         }
         int sign = key < 0.0f ? SIGN_BIT : 0;
         double rest = key < 0.0f ? -((double) key) : (double) key;
@@ -794,7 +803,7 @@ public final class Plugboard {
 
         boolean hasSameValues(Board other) {
             for (int field = 0; field < FIELDS; field++) {
-                if (value[field] != other.value[field]) {
+                if (!isSameValue(value[field], other.value[field])) {
                     return false;
                 }
             }

@@ -158,37 +158,12 @@ public final class BoardTest {
 
     private static void negativeZero() {
         Plugboard x = new Plugboard();
-        for (int i = 0; i < 3; i++) {
-            x.addShape(0, 0, 0, 1, 1, false);
-        }
-        x.lower(0, 1);
-        // Keys 0, -1 and 2: the middle of the gap round 0 is taken again and again, until it is -0.0f.
-        x.raise(0, 2);
-        x.takeBack(0);
-        x.putAbove(0, 0, 2);
-        float[] keys = {3.0f, -1.0f, 2.0f};
-        int free = 0;
-        int low = 1;
-        int high = 2;
+        NegativeZero.start(x);
         int zero = -1;
-        for (int i = 0; i < 200 && zero < 0; i++) {
-            float key = (keys[low] + keys[high]) / 2.0f;
-            if (key == keys[low] || key == keys[high]) {
-                break;
-            }
-            x.putAbove(0, free, low);
-            keys[free] = key;
-            int moved = free;
-            C.due("bits", Float.floatToIntBits(key), () -> x.keyBits(0, moved));
-            if (key == 0.0f) {
-                zero = free;
-            } else if (key < 0.0f) {
-                free = low;
-                low = moved;
-            } else {
-                free = high;
-                high = moved;
-            }
+        for (NegativeZero.Put put : NegativeZero.puts()) {
+            x.putAbove(0, put.shape(), put.other());
+            C.due("bits", Float.floatToIntBits(put.key()), () -> x.keyBits(0, put.shape()));
+            zero = put.shape();
         }
         int shape = zero;
         C.due("bits of -0.0f", 0x80000000, () -> x.keyBits(0, shape));

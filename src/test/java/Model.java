@@ -662,10 +662,8 @@ final class Model {
         Set<String> names = new HashSet<>(one.keySet());
         names.addAll(two.keySet());
         for (String name : names) {
-            Object a = value(one, name);
-            Object b = value(two, name);
-            boolean isSame = a instanceof Float f && b instanceof Float g ? f.floatValue() == g : a.equals(b);
-            if (!isSame) {
+            // Float.equals tells -0.0f from 0.0f, as the values of a key are told apart.
+            if (!value(one, name).equals(value(two, name))) {
                 return false;
             }
         }

@@ -7,6 +7,7 @@ public final class OutcomesTest {
         anew();
         outcomes();
         areAlike();
+        areAlikeOfZeroKeys();
         C.end();
     }
 
@@ -98,6 +99,44 @@ public final class OutcomesTest {
             C.due("values count, not what is known, " + i, true, () -> x.areAlike(0, 1));
             C.due("with the empty one", false, () -> x.areAlike(1, 2));
         }
+    }
+
+    private static void areAlikeOfZeroKeys() {
+        Plugboard x = new Plugboard();
+        NegativeZero.start(x);
+        for (NegativeZero.Put put : NegativeZero.puts()) {
+            x.putAbove(0, put.shape(), put.other());
+        }
+        int low = x.shapeAt(0, 0);
+        int zero = x.shapeAt(0, 1);
+        int high = x.shapeAt(0, 2);
+        x.sync(0, 1);
+        x.sync(0, 2);
+        C.due("-0.0f on both boards", true, () -> x.areAlike(0, 1));
+        // User 2 lifts the other shapes to 1.0f and 2.0f, so that user 1 finds 0.0f below them, and drops them again.
+        x.raise(2, low);
+        x.raise(2, high);
+        x.sync(1, 2);
+        x.raise(1, zero);
+        x.lower(1, zero);
+        x.takeBack(2);
+        x.takeBack(2);
+        x.sync(1, 2);
+        C.due("0.0f", 0, () -> x.keyBits(1, zero));
+        C.due("-0.0f", 0x80000000, () -> x.keyBits(0, zero));
+        C.due("the key below", x.keyBits(0, low), () -> x.keyBits(1, low));
+        C.due("the key above", x.keyBits(0, high), () -> x.keyBits(1, high));
+        C.due("-0.0f is not 0.0f", false, () -> x.areAlike(0, 1));
+        C.due("0.0f is not -0.0f", false, () -> x.areAlike(1, 0));
+        C.due("0.0f on both boards", true, () -> x.areAlike(1, 2));
+        C.due("-0.0f with itself", true, () -> x.areAlike(0, 0));
+        C.due("in the order they are equal", x.outcome(0), () -> x.outcome(1));
+        x.takeBack(1);
+        x.takeBack(1);
+        C.due("-0.0f again, from what user 0 wrote", true, () -> x.areAlike(0, 1));
+        x.sync(0, 1);
+        x.sync(0, 2);
+        C.due("all is known", true, () -> x.areAlike(2, 1));
     }
 
     private static void change(Plugboard x, int what) {
