@@ -105,7 +105,7 @@ public final class BoardTest {
         for (int i = 0; i < 3; i++) {
             x.addShape(0, 0, 0, 1, 1, false);
         }
-        for (int i = 0; i < 60; i++) {
+        for (int i = 0; i < 50; i++) {
             if (i % 7 == 3) {
                 x.lower(0, i % 3);
             } else if (i % 11 == 5) {

@@ -69,9 +69,7 @@ public final class ConnectorsTest {
         y.addShape(0, 2, 2, 1, 1, false);
         y.addShape(0, 5, 5, 1, 1, false);
         y.connect(0, 0, 't', 1, 'b');
-        while (y.operations() < 250) {
-            y.show(1, true);
-        }
+        Boards.with(y, 250);
         C.due("250 operations", Check.STATE, () -> y.connect(0, 0, 't', 1, 'b'));
         C.due("element first", Check.ELEMENT, () -> y.connect(1, 0, 't', 1, 'b'));
         C.due("disconnect", Check.STATE, () -> y.disconnect(0, 0));

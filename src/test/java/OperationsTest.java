@@ -276,7 +276,7 @@ public final class OperationsTest {
         x.show(0, true);
         x.takeBack(0);
         C.due("a taking back is no step", Check.ELEMENT, () -> x.takeBack(0));
-        while (x.operations() < 249) {
+        for (int i = 2; i < 249; i++) {
             x.show(1, true);
         }
         C.due("the last operation", 1, () -> x.takeBack(1));

@@ -304,9 +304,7 @@ public final class ShapesTest {
         x.addShape(0, 0, 0, 1, 1, false);
         x.lock(0, 0);
         x.sync(0, 1);
-        while (x.operations() < 250) {
-            x.show(2, true);
-        }
+        Boards.with(x, 250);
         C.due("add", Check.STATE, () -> x.addShape(0, 0, 0, 1, 1, false));
         C.due("add, argument first", Check.ARGUMENT, () -> x.addShape(0, 24, 0, 1, 1, false));
         C.due("number not used", Check.ELEMENT, () -> x.columnOf(0, 2));

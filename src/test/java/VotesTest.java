@@ -65,13 +65,13 @@ public final class VotesTest {
     }
 
     private static void ofAllUsersAndShapes() {
-        Plugboard x = new Plugboard();
-        for (int i = 0; i < 12; i++) {
-            x.addShape(0, i, i, 1, 1, false);
-        }
-        x.sync(0, 1);
-        x.sync(0, 2);
         for (int shape = 0; shape < 12; shape++) {
+            Plugboard x = new Plugboard();
+            for (int i = 0; i < 12; i++) {
+                x.addShape(0, i, i, 1, 1, false);
+            }
+            x.sync(0, 1);
+            x.sync(0, 2);
             for (int user = 0; user < 3; user++) {
                 int who = user;
                 int what = shape;
@@ -83,7 +83,6 @@ public final class VotesTest {
                     int what = other;
                     C.due("own votes", other == shape ? user + 1 : 0, () -> x.ownVotes(who, what));
                 }
-                x.takeBack(user);
             }
         }
     }
@@ -116,14 +115,10 @@ public final class VotesTest {
         C.due("no user", Check.ARGUMENT, () -> x.show(-1, true));
         C.due("take the hiding back", 1, () -> x.takeBack(1));
         C.due("shown again", 5, () -> x.votesFor(1, 1));
-        while (x.operations() < 250) {
-            x.show(2, true);
-        }
+        Boards.with(x, 250);
         C.due("shown ahead of 250 operations", Check.UNSUPPORTED, () -> x.vote(0, 1, 1));
         Plugboard y = board();
-        while (y.operations() < 250) {
-            y.show(2, true);
-        }
+        Boards.with(y, 250);
         C.due("250 operations", Check.STATE, () -> y.vote(0, 1, 1));
         C.due("nothing changed", 0, () -> y.ownVotes(0, 1));
     }
