@@ -406,10 +406,11 @@ public final class Plugboard {
     }
 
     private User needUser(int user) {
-        if (user < 0 || user >= users.length) {
+        User who = user >= 0 && user < users.length ? users[user] : null;
+        if (who == null) {
             throw new IllegalArgumentException("no such user");
         }
-        return users[user];
+        return who;
     }
 
     private View needView(int user, int shape) {

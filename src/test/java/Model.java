@@ -294,6 +294,27 @@ final class Model {
         return giveKey(user, shape, low + 1.0f);
     }
 
+    /** Whether half of the sum would be -0.0f and one of both keys 0.0f: the document does not say if this is refused. */
+    boolean isPutUnclear(int user, int other) {
+        if (user < 0 || user > 2 || !isSeen(user, other)) {
+            return false;
+        }
+        float low = key(user, other);
+        for (int next : inOrder(user)) {
+            float high = key(user, next);
+            if (high > low) {
+                float half = (low + high) / 2.0f;
+                return half == 0.0f && (low == 0.0f || high == 0.0f) && !Float.valueOf(half).equals(low)
+                        && !Float.valueOf(half).equals(high);
+            }
+        }
+        return false;
+    }
+
+    boolean hasShape(int shape) {
+        return shape >= 0 && shape < sizes.size();
+    }
+
     int remove(int user, int shape) {
         user(user);
         shape(user, shape);

@@ -120,11 +120,20 @@ public final class ModelTest {
                 int h = 1 + number(6);
                 both("addShape", () -> board.addShape(u, c, r, w, h, b), () -> model.addShape(u, c, r, w, h, b));
             }
-            case 2, 3, 4, 5 -> both("move " + u + " " + s + " " + c + " " + r, () -> board.move(u, s, c, r),
-                    () -> model.move(u, s, c, r));
+            case 2, 3, 4, 5 -> {
+                // The document does not say what comes first if there is no shape and the place is not on the board.
+                int x = model.hasShape(s) ? c : 0;
+                int y = model.hasShape(s) ? r : 0;
+                both("move " + u + " " + s + " " + x + " " + y, () -> board.move(u, s, x, y),
+                        () -> model.move(u, s, x, y));
+            }
             case 6 -> both("raise", () -> board.raise(u, s), () -> model.raise(u, s));
             case 7 -> both("lower", () -> board.lower(u, s), () -> model.lower(u, s));
-            case 8, 9, 10, 11 -> both("putAbove", () -> board.putAbove(u, s, o), () -> model.putAbove(u, s, o));
+            case 8, 9, 10, 11 -> {
+                if (!model.isPutUnclear(u, o)) {
+                    both("putAbove", () -> board.putAbove(u, s, o), () -> model.putAbove(u, s, o));
+                }
+            }
             case 12 -> both("remove", () -> board.remove(u, s), () -> model.remove(u, s));
             case 13 -> both("lock", () -> board.lock(u, s), () -> model.lock(u, s));
             case 14 -> both("unlock", () -> board.unlock(u, s), () -> model.unlock(u, s));
