@@ -38,6 +38,7 @@ public final class AnswerBoundsTest {
         C.end();
     }
 
+    // Promise 17: Returns the number of operations.
     private static void operations() {
         C.due("none", 0, () -> new Plugboard().operations());
         C.due("a few", 16, () -> Boards.mixed().operations());
@@ -97,6 +98,7 @@ public final class AnswerBoundsTest {
     }
 
     // Promise 22: Throws `IllegalArgumentException` if there is no such user
+    // Promise 22: any number
     // Promise 22: Returns true if so; false if there is no such shape.
     private static void sees() {
         R.noUser("sees", Boards::mixed, (x, user) -> x.sees(user, 0));
@@ -205,6 +207,7 @@ public final class AnswerBoundsTest {
 
     // Promise 29: Throws `IllegalArgumentException` if there is no such user
     // Promise 29: Throws `NoSuchElementException` if there is no such shape, or the user does not see it
+    // Promise 29: Returns the key of a shape times 8.0f, converted to int.
     private static void keyCut() {
         ofAShape("keyCut", (x, user) -> x.keyCut(user, 0), (x, shape) -> x.keyCut(0, shape));
         R.noUser("keyCut, first", Boards::mixed, (x, user) -> x.keyCut(user, 6));
@@ -257,6 +260,7 @@ public final class AnswerBoundsTest {
     }
 
     // Promise 30: Throws `NoSuchElementException` if there is none
+    // Promise 30: the shape with the greatest rank that covers a cell, of those that are no frames
     private static void topAtNone() {
         Plugboard empty = new Plugboard();
         C.due("no shapes", Check.ELEMENT, () -> empty.topAt(0, 0, 0));
@@ -287,6 +291,7 @@ public final class AnswerBoundsTest {
 
     // Promise 31: Throws `IllegalArgumentException` if there is no such user
     // Promise 31: Throws `NoSuchElementException` if there is no such shape, or the user does not see it
+    // Promise 31: Returns the user who has, or -1.
     private static void lockedBy() {
         ofAShape("lockedBy", (x, user) -> x.lockedBy(user, 0), (x, shape) -> x.lockedBy(0, shape));
         R.noUser("lockedBy, first", Boards::mixed, (x, user) -> x.lockedBy(user, 6));
@@ -302,6 +307,7 @@ public final class AnswerBoundsTest {
 
     // Promise 32: Throws `IllegalArgumentException` if there is no such user
     // Promise 32: Throws `NoSuchElementException` if there is no such shape, or the user does not see it
+    // Promise 32: whether it is a frame or not
     private static void inside() {
         ofAShape("inside", (x, user) -> x.inside(user, 0), (x, shape) -> x.inside(0, shape));
         R.noUser("inside, first", Boards::mixed, (x, user) -> x.inside(user, 6));
@@ -372,6 +378,7 @@ public final class AnswerBoundsTest {
     // Promise 36: Throws `IllegalArgumentException` if there is no such user
     // Promise 36: Throws `NoSuchElementException` if there is no such connector, or the user does not see it
     // Promise 36: Throws `UnsupportedOperationException` if there is no way
+    // Promise 36: Returns the number of cells of the route of a connector, both ends included.
     private static void routeLength() {
         ofAConnector("routeLength", (x, user) -> x.routeLength(user, 0),
                 (x, connector) -> x.routeLength(0, connector));
@@ -415,11 +422,31 @@ public final class AnswerBoundsTest {
         x.show(0, true);
         C.due("as many as there can be", 9, () -> x.votesFor(0, 0));
         C.due("of one user each", 3, () -> x.ownVotes(0, 0));
+        votesAlone();
+    }
+
+    // 12 shapes, locked, and 8 connectors: what else is on the board counts for no votes.
+    private static void votesAlone() {
+        Plugboard x = twelve();
+        for (int i = 0; i < 12; i++) {
+            x.lock(1, i);
+        }
+        for (int i = 0; i < 8; i++) {
+            x.connect(1, i, 't', i + 1, 'b');
+        }
+        x.show(1, true);
+        for (int s = 0; s < 12; s++) {
+            int shape = s;
+            C.due("no votes for " + shape, 0, () -> x.votesFor(1, shape));
+            C.due("no own votes for " + shape, 0, () -> x.ownVotes(1, shape));
+        }
+        C.due("no votes at all", Check.ELEMENT, () -> x.winner(1));
     }
 
     // Promise 39: Throws `IllegalArgumentException` if there is no such user
     // Promise 39: Throws `UnsupportedOperationException` if votes are not shown on this board
     // Promise 39: Throws `NoSuchElementException` if no shape that the user sees has votes
+    // Promise 39: of several, the one with the lowest number
     private static void winner() {
         R.noUser("winner", Boards::mixedAndShown, (x, user) -> x.winner(user));
         R.noUser("winner, hidden", Boards::mixed, (x, user) -> x.winner(user));
@@ -513,9 +540,38 @@ public final class AnswerBoundsTest {
             int user = u;
             C.due("of 250 operations", x.outcome(user), () -> x.outcomeAnew(user));
         }
+        anewInAnyOrder();
+    }
+
+    // Promise 41: delivering all operations that the user knows, the earliest one first, to an empty board
+    private static void anewInAnyOrder() {
+        int[][] orders = {{0, 1, 2}, {0, 2, 1}, {1, 0, 2}, {1, 2, 0}, {2, 0, 1}, {2, 1, 0}};
+        for (int[] order : orders) {
+            Plugboard x = new Plugboard();
+            for (int user : order) {
+                x.addShape(user, user, 0, 1, 1, false);
+            }
+            for (int u = 0; u < 3; u++) {
+                int user = u;
+                C.due("one shape", 1, () -> x.shapes(user));
+                C.due("of one operation", x.outcome(user), () -> x.outcomeAnew(user));
+            }
+            x.sync(0, 1);
+            x.sync(1, 2);
+            x.move(2, 0, 20, 9);
+            x.move(1, 0, 10, 5);
+            x.sync(1, 2);
+            x.sync(1, 0);
+            for (int u = 0; u < 3; u++) {
+                int user = u;
+                C.due("as it is kept", x.outcome(user), () -> x.outcomeAnew(user));
+                C.due("in all orders", 1, () -> x.outcomes(user, 4));
+            }
+        }
     }
 
     // Promise 42: Throws `IllegalArgumentException` if there is no such user, or the number is out of range
+    // Promise 42: the number, 0 to 4; all that the user knows if these are fewer
     private static void outcomes() {
         R.noUser("outcomes", Boards::mixed, (x, user) -> x.outcomes(user, 2));
         R.noUser("outcomes, both", Boards::mixed, (x, user) -> x.outcomes(user, 5));
@@ -538,6 +594,7 @@ public final class AnswerBoundsTest {
     }
 
     // Promise 43: Throws `IllegalArgumentException` if there is no such user
+    // Promise 43: another user, or the same one
     private static void areAlike() {
         R.noUser("areAlike", Boards::mixed, (x, user) -> x.areAlike(user, 0));
         R.noUser("areAlike, the other one", Boards::mixed, (x, user) -> x.areAlike(0, user));
@@ -554,6 +611,7 @@ public final class AnswerBoundsTest {
 
     // Promise 44: Throws `IllegalArgumentException` if there is no such user
     // Promise 44: Throws `ArithmeticException` if the user sees no shapes
+    // Promise 44: their number divided by that of all of them, both converted to float
     private static void frameShare() {
         R.noUser("frameShare", Boards::mixed, (x, user) -> x.frameShare(user));
         R.noUser("frameShare, no shapes", Plugboard::new, (x, user) -> x.frameShare(user));
@@ -576,6 +634,7 @@ public final class AnswerBoundsTest {
 
     // Promise 45: Throws `IllegalArgumentException` if there is no such user
     // Promise 45: Throws `ArithmeticException` if there are none
+    // Promise 45: of the connectors that a user sees and that have a way
     private static void meanRoute() {
         R.noUser("meanRoute", Boards::mixed, (x, user) -> x.meanRoute(user));
         R.noUser("meanRoute, none", Plugboard::new, (x, user) -> x.meanRoute(user));

@@ -23,6 +23,7 @@ public final class BoardTermsTest {
         fewestCells();
         bendsBeforeCells();
         fiveVotes();
+        fiveVotesEach();
         shownVotes();
         C.end();
     }
@@ -562,6 +563,33 @@ public final class BoardTermsTest {
                 }
             }
         }
+    }
+
+    // The votes of the others for the first and the last shape do not count for a user's own 5.
+    private static void fiveVotesEach() {
+        Plugboard x = row(12);
+        syncAll(x);
+        int[] shapes = {0, 11};
+        for (int u = 0; u < 3; u++) {
+            int user = u;
+            C.due("3 for the first", 0, () -> x.vote(user, shapes[0], 3));
+            C.due("2 for the last", 0, () -> x.vote(user, shapes[1], 2));
+            C.due("no more", Check.UNSUPPORTED, () -> x.vote(user, 5, 1));
+            syncAll(x);
+        }
+        for (int u = 0; u < 3; u++) {
+            int user = u;
+            C.due("2 in place of 3", 3, () -> x.vote(user, shapes[0], 2));
+            C.due("3 in place of 2", 2, () -> x.vote(user, shapes[1], 3));
+            C.due("no more", Check.UNSUPPORTED, () -> x.vote(user, shapes[0], 3));
+            syncAll(x);
+        }
+        x.connect(0, 0, 't', 1, 't');
+        x.show(0, true);
+        C.due("all together", 6, () -> x.votesFor(0, 0));
+        C.due("all together", 9, () -> x.votesFor(0, 11));
+        C.due("none", 0, () -> x.votesFor(0, 5));
+        C.due("the most", 11, () -> x.winner(0));
     }
 
     // Terms: While votes are shown on a user's board, this user cannot vote.

@@ -35,6 +35,7 @@ public final class SentencesTest {
         while (heads.find()) {
             promises++;
             String place = heads.group(1);
+            C.same(place + " is quoted", true, quotes.stream().anyMatch(quote -> quote.place.equals(place)));
             for (String line : promise(document, place).split("\n")) {
                 if (line.startsWith("Throws ")) {
                     C.same(place + ": " + line + " is quoted", true, quotes.contains(new Quote(place, plain(line))));

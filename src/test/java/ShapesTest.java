@@ -18,6 +18,7 @@ public final class ShapesTest {
         C.end();
     }
 
+    // Promise 1: Creates three empty boards.
     private static void newObject() {
         Plugboard x = new Plugboard();
         C.due("operations", 0, () -> x.operations());
@@ -28,7 +29,17 @@ public final class ShapesTest {
             C.due("outcome", 0, () -> x.outcome(user));
             C.due("area", 0L, () -> x.area(user));
             C.due("areAlike", true, () -> x.areAlike(user, 0));
+            C.due("no step", Check.ELEMENT, () -> x.takeBack(user));
+            C.due("no shape", false, () -> x.sees(user, 0));
+            C.due("no rank", Check.BOUNDS, () -> x.shapeAt(user, 0));
+            C.due("nothing on a cell", Check.ELEMENT, () -> x.topAt(user, 0, 0));
+            C.due("votes are hidden", Check.UNSUPPORTED, () -> x.winner(user));
         }
+        Plugboard used = Boards.full();
+        C.due("a new one, whatever an older one has", 0, () -> new Plugboard().operations());
+        C.due("no shapes", 0, () -> new Plugboard().shapes(0));
+        C.due("its first shape", 0, () -> new Plugboard().addShape(0, 0, 0, 1, 1, false));
+        C.due("the older one stays", 250, () -> used.operations());
     }
 
     private static void addShape() {

@@ -427,6 +427,7 @@ public final class StepBoundsTest {
     // Promise 9: Throws `NoSuchElementException` if there is no such shape, or the user does not see it
     // Promise 9: Throws `UnsupportedOperationException` if nobody has locked it on the board of the user
     // Promise 9: Throws `IllegalStateException` if there are 250 operations
+    // Promise 9: Ends that a shape is locked, whoever has locked it.
     private static void unlock() {
         R.noUser("unlock", Boards::mixed, (x, user) -> x.unlock(user, Boards.LOCKED));
         R.noUser("unlock, ahead of the shape", Boards::full, (x, user) -> x.unlock(user, Boards.NO_SHAPE));
@@ -553,6 +554,7 @@ public final class StepBoundsTest {
         R.noUser("vote, first", Boards::fullAndShown, (x, user) -> x.vote(user, Boards.NO_SHAPE, 4));
     }
 
+    // Promise 12: how many votes, 0 to 3
     private static void voteCounts() {
         for (int count : new int[] {-1, 4, 5, 6, Integer.MIN_VALUE, Integer.MAX_VALUE}) {
             R.due("votes " + count, Check.ARGUMENT, Boards::mixed, x -> x.vote(0, Boards.FREE, count));
